@@ -24,6 +24,10 @@ final class Answers {
         }
     }
 
+    int asked() {
+        return asked;
+    }
+
     int wrong() {
         return wrong;
     }

@@ -105,6 +105,7 @@ public final class PromisesTest {
         }
         DrawerSlips x = new DrawerSlips();
         due("set(6, 1)", BAD_VALUE, x.set(6, 1));
+        due("set(6, 0)", BAD_VALUE, x.set(6, 0));
         for (int wild : WILD) {
             due("set(" + wild + ", 1)", BAD_VALUE, x.set(wild, 1));
         }
@@ -1006,39 +1007,33 @@ public final class PromisesTest {
 
     private static void undoBringsAllBack() {
         answers.topic("19 undo brings all back");
-        DrawerSlips x = new DrawerSlips();
-        x.set(BATCH, 2);
-        for (int i = 0; i < 8; i++) {
-            x.slip(i % 3 == 2 ? WRITES : READS, 7 * i, 1);
+        for (int change = 0; change < 7; change++) {
+            DrawerSlips x = new DrawerSlips();
+            x.set(BATCH, 2);
+            for (int i = 0; i < 8; i++) {
+                x.slip(i % 3 == 2 ? WRITES : READS, 7 * i, 1);
+            }
+            x.save(1);
+            x.serve(3);
+            int[] before = everything(x);
+            int kept = x.count(17);
+            changeSomehow(x, change);
+            x.undo();
+            same("behind change " + change, before, everything(x));
+            due("history", kept - 1, x.count(17));
         }
-        x.serve(3);
-        int[] before = everything(x);
-        x.serve(30);
-        x.undo();
-        same("serve", before, everything(x));
-        x.set(MOVE, 4);
-        x.undo();
-        same("set", before, everything(x));
-        x.slip(READS, 43, 3);
-        x.undo();
-        same("slip, joined", before, everything(x));
-        x.tear(6);
-        x.undo();
-        same("tear", before, everything(x));
-        x.pass(99);
-        x.undo();
-        same("pass", before, everything(x));
-        append(x, "r1;s9;t9;w2");
-        x.carryOut();
-        x.undo();
-        same("carryOut", before, everything(x));
-        x.save(0);
-        x.serve(2);
-        x.restore(0);
-        same("restore", before, everything(x));
-        x.undo();
-        x.undo();
-        same("undo of restore and serve", before, everything(x));
+    }
+
+    private static void changeSomehow(DrawerSlips x, int change) {
+        switch (change) {
+            case 0: due("set", 1, x.set(MOVE, 4)); break;
+            case 1: due("slip, joined", 6, x.slip(READS, 43, 3)); break;
+            case 2: due("tear", x.of(6, 3), x.tear(6)); break;
+            case 3: due("serve", 5, x.serve(30)); break;
+            case 4: due("pass", x.count(0) + 99, x.pass(99)); break;
+            case 5: append(x, "r1;s9;t9;w2"); due("carryOut", 4, x.carryOut()); break;
+            default: due("restore", 8, x.restore(1));
+        }
     }
 
     /** All that can be asked, but for the pad and the history. */

@@ -1,3 +1,5 @@
+import java.util.Map;
+
 /** Each promise of the document: ordinary inputs, the edges that it names, and wrong inputs. */
 public final class PromisesTest {
     private static final int NO_SUCH = -1, BAD_VALUE = -2, BAD_TEXT = -3, TOO_MANY = -4, NOT_POSSIBLE = -5, NONE = -6;
@@ -6,7 +8,6 @@ public final class PromisesTest {
     private static final int[] LEAST = {1, 1, 1, 1, 0, 1};
     private static final int[] MOST = {999, 999, 16, 9, 9, 20};
     private static final int[] FIRST = {50, 200, 4, 2, 1, 2};
-    private static final int[] WILD = {Integer.MIN_VALUE, -1000, -7, -1, Integer.MAX_VALUE};
 
     private static final Answers answers = new Answers();
 
@@ -43,11 +44,9 @@ public final class PromisesTest {
         carryOutStopsAtAnError();
         undo();
         undoKeepsSixStates();
-        undoBringsAllBack();
         undoLeavesPadAndSlots();
         save();
         restore();
-        errorsChangeNothing();
         answers.end();
     }
 
@@ -96,7 +95,7 @@ public final class PromisesTest {
             due("it stays", MOST[setting], x.count(10 + setting));
             due("the same once more", MOST[setting], x.set(setting, MOST[setting]));
             due("each is a change", 3, x.count(17));
-            for (int wild : WILD) {
+            for (int wild : Calls.WILD) {
                 due("set(" + setting + ", " + wild + ")", BAD_VALUE, x.set(setting, wild));
             }
             for (int other = 0; other < 6; other++) {
@@ -106,7 +105,7 @@ public final class PromisesTest {
         DrawerSlips x = new DrawerSlips();
         due("set(6, 1)", BAD_VALUE, x.set(6, 1));
         due("set(6, 0)", BAD_VALUE, x.set(6, 0));
-        for (int wild : WILD) {
+        for (int wild : Calls.WILD) {
             due("set(" + wild + ", 1)", BAD_VALUE, x.set(wild, 1));
         }
     }
@@ -129,7 +128,7 @@ public final class PromisesTest {
         due("ten drawers", BAD_VALUE, x.slip(READS, 5, 10));
         due("sort 2", BAD_VALUE, x.slip(2, 5, 1));
         due("sort -1", BAD_VALUE, x.slip(-1, 5, 1));
-        for (int wild : WILD) {
+        for (int wild : Calls.WILD) {
             due("sort " + wild, BAD_VALUE, x.slip(wild, 5, 1));
             due("drawer " + wild, BAD_VALUE, x.slip(READS, wild, 1));
             due("many " + wild, BAD_VALUE, x.slip(READS, 5, wild));
@@ -203,7 +202,7 @@ public final class PromisesTest {
         x.slip(WRITES, 20, 1);
         x.pass(4);
         due("none such", NO_SUCH, x.tear(2));
-        for (int wild : WILD) {
+        for (int wild : Calls.WILD) {
             due("tear(" + wild + ")", NO_SUCH, x.tear(wild));
         }
         due("errors record nothing", 4, x.count(17));
@@ -228,7 +227,7 @@ public final class PromisesTest {
         due("none waits", NOT_POSSIBLE, x.serve(1));
         due("none waits, and too few", BAD_VALUE, x.serve(0));
         due("31", BAD_VALUE, x.serve(31));
-        for (int wild : WILD) {
+        for (int wild : Calls.WILD) {
             due("serve(" + wild + ")", BAD_VALUE, x.serve(wild));
         }
         due("errors record nothing", 0, x.count(17));
@@ -261,22 +260,9 @@ public final class PromisesTest {
         due("but it is gone", 96 + 99, x.count(6));
     }
 
-    /** An archive whose minute of now is this one. */
-    private static DrawerSlips atMinute(int minute) {
-        DrawerSlips x = new DrawerSlips();
-        int left = minute;
-        while (left > 0) {
-            int step = Math.min(left, 999);
-            x.pass(step);
-            left -= step;
-        }
-        due("atMinute", minute, x.count(0));
-        return x;
-    }
-
     private static void serveKeepsTheBoundOfMinutes() {
         answers.topic("5 serve keeps the bound of minutes");
-        DrawerSlips x = atMinute(99990);
+        DrawerSlips x = Calls.atMinute(99990);
         x.slip(READS, 5, 2);
         x.slip(READS, 8, 1);
         due("two end at 100002", NOT_POSSIBLE, x.serve(2));
@@ -288,7 +274,7 @@ public final class PromisesTest {
         due("now", 99999, x.count(0));
         due("the other one cannot be", NOT_POSSIBLE, x.serve(1));
         due("it can be joined yet", 1, x.slip(READS, 9, 1));
-        DrawerSlips y = atMinute(99990);
+        DrawerSlips y = Calls.atMinute(99990);
         y.slip(READS, 6, 2);
         due("one ends at 100000", NOT_POSSIBLE, y.serve(1));
         due("too many and too late", BAD_VALUE, y.serve(31));
@@ -464,7 +450,7 @@ public final class PromisesTest {
         DrawerSlips x = new DrawerSlips();
         due("0", BAD_VALUE, x.pass(0));
         due("1000", BAD_VALUE, x.pass(1000));
-        for (int wild : WILD) {
+        for (int wild : Calls.WILD) {
             due("pass(" + wild + ")", BAD_VALUE, x.pass(wild));
         }
         due("errors record nothing", 0, x.count(17));
@@ -472,7 +458,7 @@ public final class PromisesTest {
         due("999", 1000, x.pass(999));
         due("changes", 2, x.count(17));
         due("the arm stands", 0, x.count(3));
-        DrawerSlips y = atMinute(99990);
+        DrawerSlips y = Calls.atMinute(99990);
         due("above", NOT_POSSIBLE, y.pass(10));
         due("above, and too many", BAD_VALUE, y.pass(1000));
         due("up to it", 99999, y.pass(9));
@@ -498,7 +484,7 @@ public final class PromisesTest {
         }
         due("of(0, 6)", BAD_VALUE, x.of(0, 6));
         due("of(2, 6)", NO_SUCH, x.of(2, 6));
-        for (int wild : WILD) {
+        for (int wild : Calls.WILD) {
             due("of(0, " + wild + ")", BAD_VALUE, x.of(0, wild));
             due("of(" + wild + ", 0)", NO_SUCH, x.of(wild, 0));
         }
@@ -537,7 +523,7 @@ public final class PromisesTest {
         due("waiting(1, 2)", NO_SUCH, x.waiting(WRITES, 2));
         due("waiting(2, 0)", BAD_VALUE, x.waiting(2, 0));
         due("waiting(2, 99)", BAD_VALUE, x.waiting(2, 99));
-        for (int wild : WILD) {
+        for (int wild : Calls.WILD) {
             due("waiting(0, " + wild + ")", NO_SUCH, x.waiting(READS, wild));
             due("waiting(" + wild + ", 0)", BAD_VALUE, x.waiting(wild, 0));
         }
@@ -563,7 +549,7 @@ public final class PromisesTest {
         due("none before", NO_SUCH, x.log(2, 0));
         due("log(0, 3)", BAD_VALUE, x.log(0, 3));
         due("log(2, 3)", NO_SUCH, x.log(2, 3));
-        for (int wild : WILD) {
+        for (int wild : Calls.WILD) {
             due("log(0, " + wild + ")", BAD_VALUE, x.log(0, wild));
             due("log(" + wild + ", 0)", NO_SUCH, x.log(wild, 0));
         }
@@ -601,7 +587,7 @@ public final class PromisesTest {
             due("count(" + what + ")", want[what], x.count(what));
         }
         due("count(18)", BAD_VALUE, x.count(18));
-        for (int wild : WILD) {
+        for (int wild : Calls.WILD) {
             due("count(" + wild + ")", BAD_VALUE, x.count(wild));
         }
         x.serve(3);
@@ -619,7 +605,7 @@ public final class PromisesTest {
         due("none waits", NONE, x.next(1));
         due("none waits", NONE, x.next(2));
         due("next(3)", BAD_VALUE, x.next(3));
-        for (int wild : WILD) {
+        for (int wild : Calls.WILD) {
             due("next(" + wild + ")", BAD_VALUE, x.next(wild));
         }
         x.pass(9);
@@ -651,7 +637,7 @@ public final class PromisesTest {
         due("the next", 14 + 8 + 2, x.servedIn(0));
         due("the last", 24 + 16 + 2, x.servedIn(1));
         due("no such", NO_SUCH, x.servedIn(3));
-        for (int wild : WILD) {
+        for (int wild : Calls.WILD) {
             due("servedIn(" + wild + ")", NO_SUCH, x.servedIn(wild));
         }
         x.serve(1);
@@ -673,7 +659,7 @@ public final class PromisesTest {
         due("none", NONE, x.all(1));
         due("none", NONE, x.all(2));
         due("all(3)", BAD_VALUE, x.all(3));
-        for (int wild : WILD) {
+        for (int wild : Calls.WILD) {
             due("all(" + wild + ")", BAD_VALUE, x.all(wild));
         }
         x.pass(300);
@@ -692,7 +678,7 @@ public final class PromisesTest {
 
     private static void whatIfIgnoresTheBoundOfMinutes() {
         answers.topic("11 to 13 ignore the bound of minutes");
-        DrawerSlips x = atMinute(99995);
+        DrawerSlips x = Calls.atMinute(99995);
         x.slip(READS, 50, 1);
         due("not to be served", NOT_POSSIBLE, x.serve(1));
         due("next", 100047, x.next(2));
@@ -707,31 +693,17 @@ public final class PromisesTest {
         x.slip(WRITES, 5, 1);
         x.serve(1);
         x.slip(READS, 30, 1);
-        int[] before = counts(x);
+        Map<String, Integer> before = Calls.everything(x);
         for (int what = 0; what < 3; what++) {
             x.next(what);
             x.all(what);
             x.servedIn(1 + what % 2);
             x.joined(READS, 31, 1);
         }
-        same("counts", before, counts(x));
+        answers.same("behind them", before, Calls.everything(x));
         due("last drawer", 30, x.of(2, 2));
         due("log", 0, x.log(0, 0));
         due("one entry", NO_SUCH, x.log(1, 0));
-    }
-
-    private static int[] counts(DrawerSlips x) {
-        int[] counts = new int[18];
-        for (int what = 0; what < counts.length; what++) {
-            counts[what] = x.count(what);
-        }
-        return counts;
-    }
-
-    private static void same(String name, int[] want, int[] got) {
-        for (int i = 0; i < want.length; i++) {
-            due(name + " " + i, want[i], got[i]);
-        }
     }
 
     // ---- promise 14
@@ -755,7 +727,7 @@ public final class PromisesTest {
         due("ten drawers", BAD_VALUE, x.joined(READS, 14, 10));
         due("too high", BAD_VALUE, x.joined(READS, 92, 9));
         due("highest", NONE, x.joined(READS, 91, 9));
-        for (int wild : WILD) {
+        for (int wild : Calls.WILD) {
             due("sort " + wild, BAD_VALUE, x.joined(wild, 14, 1));
             due("drawer " + wild, BAD_VALUE, x.joined(READS, wild, 1));
             due("many " + wild, BAD_VALUE, x.joined(READS, 14, wild));
@@ -763,20 +735,6 @@ public final class PromisesTest {
     }
 
     // ---- promise 15
-
-    private static long packed(String text) {
-        long characters = 0;
-        for (int i = 0; i < text.length(); i++) {
-            characters = (characters << 8) | text.charAt(i);
-        }
-        return characters;
-    }
-
-    private static void append(DrawerSlips x, String text) {
-        for (int from = 0; from < text.length(); from += 8) {
-            x.put(packed(text.substring(from, Math.min(text.length(), from + 8))));
-        }
-    }
 
     private static void put() {
         answers.topic("15 put");
@@ -796,19 +754,19 @@ public final class PromisesTest {
         due("the pad is empty yet", 0, x.count(16));
         due("33", 1, x.put(33));
         due("126", 2, x.put(126));
-        due("eight", 10, x.put(packed("~~~~~~~~")));
+        due("eight", 10, x.put(Calls.packed("~~~~~~~~")));
         due("no change", 0, x.count(17));
         for (int i = 1; i < 9; i++) {
-            due("more", 10 + 8 * i, x.put(packed("r1;r1;r1")));
+            due("more", 10 + 8 * i, x.put(Calls.packed("r1;r1;r1")));
         }
         due("up to 74", 74, x.count(16));
-        due("81", TOO_MANY, x.put(packed("r1;r1;r")));
-        due("81 with a blank", BAD_VALUE, x.put(packed("r1;r1; ")));
-        due("80", 80, x.put(packed("r1;r1;")));
+        due("81", TOO_MANY, x.put(Calls.packed("r1;r1;r")));
+        due("81 with a blank", BAD_VALUE, x.put(Calls.packed("r1;r1; ")));
+        due("80", 80, x.put(Calls.packed("r1;r1;")));
         due("full", TOO_MANY, x.put('r'));
         due("still 80", 80, x.count(16));
         DrawerSlips y = new DrawerSlips();
-        append(y, "r12;w3");
+        Calls.append(y, "r12;w3");
         due("in their order", NONE, y.fault());
         due("carried out", 2, y.carryOut());
         due("drawer 12", 12, y.of(0, 1));
@@ -821,12 +779,12 @@ public final class PromisesTest {
         answers.topic("16 wipe");
         DrawerSlips x = new DrawerSlips();
         due("empty", 0, x.wipe());
-        append(x, "r12;w3+4;");
+        Calls.append(x, "r12;w3+4;");
         due("its length", 9, x.wipe());
         due("empty then", 0, x.count(16));
         due("empty again", 0, x.wipe());
         due("no change", 0, x.count(17));
-        append(x, "s");
+        Calls.append(x, "s");
         due("nothing of it is left", 1, x.fault());
     }
 
@@ -834,7 +792,7 @@ public final class PromisesTest {
 
     private static int faultOf(String text) {
         DrawerSlips x = new DrawerSlips();
-        append(x, text);
+        Calls.append(x, text);
         due("length of " + text, text.length(), x.count(16));
         int fault = x.fault();
         due("the pad stays", text.length(), x.count(16));
@@ -884,7 +842,7 @@ public final class PromisesTest {
         answers.topic("18 carryOut");
         DrawerSlips x = new DrawerSlips();
         due("an empty pad", BAD_TEXT, x.carryOut());
-        append(x, "r10;w20+3;t9;s1;r11+8");
+        Calls.append(x, "r10;w20+3;t9;s1;r11+8");
         due("all", 5, x.carryOut());
         due("the pad is empty", 0, x.count(16));
         due("one change", 1, x.count(17));
@@ -895,7 +853,7 @@ public final class PromisesTest {
         due("of(2, 0)", 0, x.of(2, 0));
         due("of(2, 1)", 11, x.of(2, 1));
         due("of(2, 2)", 19, x.of(2, 2));
-        append(x, "r10;x");
+        Calls.append(x, "r10;x");
         due("a fault", BAD_TEXT, x.carryOut());
         due("the pad stays", 5, x.count(16));
         due("no change", 1, x.count(17));
@@ -904,7 +862,7 @@ public final class PromisesTest {
         due("undone at once", 0, x.undo());
         due("as before", 0, x.count(0));
         due("none waits", 0, x.count(1) + x.count(2));
-        append(x, "r5;r6;r7+1");
+        Calls.append(x, "r5;r6;r7+1");
         due("joined ones count", 3, x.carryOut());
         due("one slip", 1, x.count(1));
         due("of four drawers", 8, x.of(0, 2));
@@ -912,7 +870,7 @@ public final class PromisesTest {
         for (int i = 0; i < 26; i++) {
             full.append(";t1");
         }
-        append(x, full.toString());
+        Calls.append(x, full.toString());
         due("length", 80, x.count(16));
         due("27 orders", 27, x.carryOut());
         due("27 minutes", 27, x.count(0));
@@ -921,21 +879,21 @@ public final class PromisesTest {
     private static void carryOutStopsAtAnError() {
         answers.topic("18 carryOut stops at an error");
         DrawerSlips x = new DrawerSlips();
-        append(x, "r99+1;t5");
+        Calls.append(x, "r99+1;t5");
         due("the first", 0, x.carryOut());
         due("the pad is empty", 0, x.count(16));
         due("a change nevertheless", 1, x.count(17));
         due("the second is not carried out", 0, x.count(0));
-        append(x, "t7;r0+9;t8");
+        Calls.append(x, "t7;r0+9;t8");
         due("ten drawers", 1, x.carryOut());
         due("now", 7, x.count(0));
-        append(x, "t1;s1;t1");
+        Calls.append(x, "t1;s1;t1");
         due("none to serve", 1, x.carryOut());
-        append(x, "t1;t0;t1");
+        Calls.append(x, "t1;t0;t1");
         due("no minutes", 1, x.carryOut());
-        append(x, "r1;s0;t1");
+        Calls.append(x, "r1;s0;t1");
         due("serve none", 1, x.carryOut());
-        append(x, "s31;t1");
+        Calls.append(x, "s31;t1");
         due("serve too many", 0, x.carryOut());
         due("now then", 9, x.count(0));
         due("six changes", 6, x.count(17));
@@ -943,13 +901,13 @@ public final class PromisesTest {
         for (int i = 0; i < 29; i++) {
             y.slip(READS, 3 * i, 1);
         }
-        append(y, "r90;r93;t1");
+        Calls.append(y, "r90;r93;t1");
         due("too many wait", 1, y.carryOut());
         due("30 wait", 30, y.count(1));
-        DrawerSlips z = atMinute(99990);
-        append(z, "t9;t1;r1");
+        DrawerSlips z = Calls.atMinute(99990);
+        Calls.append(z, "t9;t1;r1");
         due("too late", 1, z.carryOut());
-        append(z, "r1;s1;r9");
+        Calls.append(z, "r1;s1;r9");
         due("too late to serve", 1, z.carryOut());
     }
 
@@ -985,7 +943,7 @@ public final class PromisesTest {
             x.pass(1);
             due("changes", Math.min(i, 6), x.count(17));
         }
-        for (int wild : WILD) {
+        for (int wild : Calls.WILD) {
             x.pass(wild);
         }
         for (int i = 5; i >= 0; i--) {
@@ -1005,71 +963,11 @@ public final class PromisesTest {
         due("two minutes less", 21, x.count(0));
     }
 
-    private static void undoBringsAllBack() {
-        answers.topic("19 undo brings all back");
-        for (int change = 0; change < 7; change++) {
-            DrawerSlips x = new DrawerSlips();
-            x.set(BATCH, 2);
-            for (int i = 0; i < 8; i++) {
-                x.slip(i % 3 == 2 ? WRITES : READS, 7 * i, 1);
-            }
-            x.save(1);
-            x.serve(3);
-            int[] before = everything(x);
-            int kept = x.count(17);
-            changeSomehow(x, change);
-            x.undo();
-            same("behind change " + change, before, everything(x));
-            due("history", kept - 1, x.count(17));
-        }
-    }
-
-    private static void changeSomehow(DrawerSlips x, int change) {
-        switch (change) {
-            case 0: due("set", 1, x.set(MOVE, 4)); break;
-            case 1: due("slip, joined", 6, x.slip(READS, 43, 3)); break;
-            case 2: due("tear", x.of(6, 3), x.tear(6)); break;
-            case 3: due("serve", 5, x.serve(30)); break;
-            case 4: due("pass", x.count(0) + 99, x.pass(99)); break;
-            case 5: append(x, "r1;s9;t9;w2"); due("carryOut", 4, x.carryOut()); break;
-            default: due("restore", 8, x.restore(1));
-        }
-    }
-
-    /** All that can be asked, but for the pad and the history. */
-    private static int[] everything(DrawerSlips x) {
-        int[] all = new int[16 + 40 * 7 + 2 * 31 + 21 * 3 + 6];
-        int at = 0;
-        for (int what = 0; what < 16; what++) {
-            all[at++] = x.count(what);
-        }
-        for (int slip = 0; slip < 40; slip++) {
-            for (int what = 0; what < 6; what++) {
-                all[at++] = x.of(slip, what);
-            }
-            all[at++] = x.servedIn(slip);
-        }
-        for (int rank = 0; rank < 31; rank++) {
-            all[at++] = x.waiting(READS, rank);
-            all[at++] = x.waiting(WRITES, rank);
-        }
-        for (int ago = 0; ago < 21; ago++) {
-            for (int what = 0; what < 3; what++) {
-                all[at++] = x.log(ago, what);
-            }
-        }
-        for (int what = 0; what < 3; what++) {
-            all[at++] = x.next(what);
-            all[at++] = x.all(what);
-        }
-        return all;
-    }
-
     private static void undoLeavesPadAndSlots() {
         answers.topic("19 undo leaves the pad and the slots");
         DrawerSlips x = new DrawerSlips();
         x.pass(1);
-        append(x, "t5");
+        Calls.append(x, "t5");
         x.save(1);
         x.undo();
         due("the pad", 2, x.count(16));
@@ -1092,7 +990,7 @@ public final class PromisesTest {
         due("two wait", 2, x.save(1));
         due("no change", 2, x.count(17));
         due("slot 2", BAD_VALUE, x.save(2));
-        for (int wild : WILD) {
+        for (int wild : Calls.WILD) {
             due("save(" + wild + ")", BAD_VALUE, x.save(wild));
         }
         x.slip(WRITES, 20, 1);
@@ -1110,7 +1008,7 @@ public final class PromisesTest {
         due("slot 2", BAD_VALUE, x.restore(2));
         due("slot 0", NOT_POSSIBLE, x.restore(0));
         due("slot 1", NOT_POSSIBLE, x.restore(1));
-        for (int wild : WILD) {
+        for (int wild : Calls.WILD) {
             due("restore(" + wild + ")", BAD_VALUE, x.restore(wild));
         }
         due("errors record nothing", 0, x.count(17));
@@ -1118,7 +1016,7 @@ public final class PromisesTest {
         x.slip(READS, 40, 2);
         x.slip(WRITES, 9, 1);
         x.serve(1);
-        int[] saved = everything(x);
+        Map<String, Integer> saved = Calls.everything(x);
         x.save(0);
         due("slot 1 yet", NOT_POSSIBLE, x.restore(1));
         x.serve(1);
@@ -1126,38 +1024,13 @@ public final class PromisesTest {
         x.set(STARVE, 1);
         x.put('t');
         due("one waits then", 1, x.restore(0));
-        same("restored", saved, everything(x));
+        answers.same("restored", saved, Calls.everything(x));
         due("a change", 6, x.count(17));
         due("the pad stays", 1, x.count(16));
         due("the number comes again", 2, x.slip(WRITES, 70, 1));
         due("the slot keeps it", 1, x.restore(0));
-        same("restored again", saved, everything(x));
+        answers.same("restored again", saved, Calls.everything(x));
         due("undone", 5, x.undo());
         due("before it", 70, x.of(2, 1));
-    }
-
-    // ---- all of them
-
-    private static void errorsChangeNothing() {
-        answers.topic("errors change nothing");
-        DrawerSlips x = new DrawerSlips();
-        for (int i = 0; i < 30; i++) {
-            x.slip(i % 2, 3 * i, 1);
-        }
-        append(x, "r5;");
-        int[] before = everything(x);
-        due("set", BAD_VALUE, x.set(OLD_WRITE, 0));
-        due("slip", TOO_MANY, x.slip(READS, 5, 1));
-        due("slip", BAD_VALUE, x.slip(READS, 99, 2));
-        due("tear", NO_SUCH, x.tear(30));
-        due("serve", BAD_VALUE, x.serve(31));
-        due("pass", BAD_VALUE, x.pass(0));
-        due("put", BAD_VALUE, x.put(0));
-        due("carryOut", BAD_TEXT, x.carryOut());
-        due("save", BAD_VALUE, x.save(2));
-        due("restore", NOT_POSSIBLE, x.restore(0));
-        same("as before", before, everything(x));
-        due("pad", 3, x.count(16));
-        due("history", 6, x.count(17));
     }
 }

@@ -1,0 +1,30 @@
+import java.io.IOException;
+import java.io.UncheckedIOException;
+import java.nio.charset.StandardCharsets;
+import java.nio.file.Files;
+import java.nio.file.Path;
+
+/** The document's words, so that a test can show which sentence it is about. */
+final class Document {
+    private static final Path PLACE = Path.of("../shared/DOC.md");
+    private static final String WORDS = plain(read());
+
+    private Document() {
+    }
+
+    static boolean says(String sentence) {
+        return WORDS.contains(plain(sentence));
+    }
+
+    private static String read() {
+        try {
+            return Files.readString(PLACE, StandardCharsets.UTF_8);
+        } catch (IOException e) {
+            throw new UncheckedIOException(e);
+        }
+    }
+
+    private static String plain(String text) {
+        return text.replace("`", "").replaceAll("\\s+", " ");
+    }
+}

@@ -787,7 +787,7 @@ public final class DrawerSlips {
         private int findFault() {
             begin();
             boolean isRead = readOrder();
-            while (isRead && at < pad.length && pad.signAt(at) == ';') {
+            for (int orders = 1; orders < Pad.MOST && isRead && pad.signAt(at) == ';'; orders++) {
                 skipSemicolon();
                 isRead = readOrder();
             }

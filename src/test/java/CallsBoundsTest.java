@@ -77,9 +77,12 @@ public final class CallsBoundsTest {
     private static void set() {
         sentence("Returns the previous value; BAD_VALUE if there is no such setting, or the value is out of its range.");
         DrawerSlips x = new DrawerSlips();
-        due("setting -1", BAD_VALUE, x.set(-1, 1));
-        due("setting 6", BAD_VALUE, x.set(6, 1));
-        wild("no such setting", BAD_VALUE, wild -> x.set(wild, 1));
+        for (int value = 0; value < 2; value++) {
+            int any = value;
+            due("setting -1, to " + value, BAD_VALUE, x.set(-1, value));
+            due("setting 6, to " + value, BAD_VALUE, x.set(6, value));
+            wild("no such setting, to " + value, BAD_VALUE, wild -> x.set(wild, any));
+        }
         wild("no such value", BAD_VALUE, wild -> x.set(MOVE, wild));
         due("the first value", 1, x.set(MOVE, 0));
         due("the least value", 0, x.set(MOVE, 9));

@@ -357,6 +357,7 @@ public final class CallsBoundsTest {
     private static void waiting() {
         waitingByDrawerThenNumber();
         waitingSorts();
+        waitingFirst();
         waitingRanks();
     }
 
@@ -385,6 +386,17 @@ public final class CallsBoundsTest {
         due("2", BAD_VALUE, x.waiting(2, 0));
         due("-1", BAD_VALUE, x.waiting(-1, 0));
         wild("neither", BAD_VALUE, wild -> x.waiting(wild, 0));
+    }
+
+    private static void waitingFirst() {
+        sentence("`rank`: 0 for the first one");
+        DrawerSlips x = new DrawerSlips();
+        x.slip(READS, 99, 1);
+        x.slip(READS, 0, 1);
+        due("-1", NO_SUCH, x.waiting(READS, -1));
+        due("0", 1, x.waiting(READS, 0));
+        due("1", 0, x.waiting(READS, 1));
+        due("2", NO_SUCH, x.waiting(READS, 2));
     }
 
     private static void waitingRanks() {
@@ -469,10 +481,31 @@ public final class CallsBoundsTest {
     // ---- promise 10
 
     private static void count() {
+        countNowSlipsAndArm();
         countLatestBatch();
         countWaitsAndServed();
         countDrawersGone();
         countOutOfRange();
+    }
+
+    private static void countNowSlipsAndArm() {
+        sentence("0 the minute of now, 1 slips that wait and read, 2 that write, 3 the drawer of the arm");
+        for (int sort = 0; sort < 2; sort++) {
+            DrawerSlips x = new DrawerSlips();
+            x.set(OLD_READ, 999);
+            for (int i = 0; i < 30; i++) {
+                x.slip(sort, 99 - 3 * i, 1);
+                due("of its sort", i + 1, x.count(1 + sort));
+                due("of the other sort", 0, x.count(2 - sort));
+            }
+            due("now", 0, x.count(0));
+            due("the arm", 0, x.count(3));
+            x.serve(30);
+            due("none of its sort", 0, x.count(1 + sort));
+            due("the arm at the last drawer", 99, x.count(3));
+            due("now, behind 30 slips and the ways to them", 12 + 29 * 2 + 30 * 2, x.count(0));
+        }
+        due("the last minute", 99999, Calls.atMinute(99999).count(0));
     }
 
     private static void countLatestBatch() {
@@ -1081,6 +1114,7 @@ public final class CallsBoundsTest {
     // ---- promises 20 and 21
 
     private static void save() {
+        slots();
         sentence("Saves everything except the pad, the history and the slots in a slot, and overwrites what was saved there.");
         DrawerSlips x = used();
         DrawerSlips twin = used();
@@ -1109,6 +1143,23 @@ public final class CallsBoundsTest {
         due("slot -1", BAD_VALUE, y.save(-1));
         wild("save", BAD_VALUE, y::save);
         due("nothing in the slot 1", NOT_POSSIBLE, y.restore(1));
+    }
+
+    private static void slots() {
+        sentence("`slot`: 0 or 1");
+        DrawerSlips x = new DrawerSlips();
+        for (int slot = 0; slot < 2; slot++) {
+            x.pass(10);
+            due("save in " + slot, 0, x.save(slot));
+        }
+        due("save in -1", BAD_VALUE, x.save(-1));
+        due("save in 2", BAD_VALUE, x.save(2));
+        due("restore of -1", BAD_VALUE, x.restore(-1));
+        due("restore of 2", BAD_VALUE, x.restore(2));
+        for (int slot = 0; slot < 2; slot++) {
+            due("restore of " + slot, 0, x.restore(slot));
+            due("now of " + slot, 10 + 10 * slot, x.count(0));
+        }
     }
 
     private static void restore() {

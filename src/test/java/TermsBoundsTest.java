@@ -538,6 +538,7 @@ public final class TermsBoundsTest {
         fewerThanBatch();
         atTheArmOrAbove();
         leastThenLowestOfTheBatch();
+        otherwiseANewBatch();
     }
 
     private static void noBatchAtFirst() {
@@ -613,11 +614,35 @@ public final class TermsBoundsTest {
         due("20 is below the arm then", 2, x.next(0));
     }
 
+    private static void otherwiseANewBatch() {
+        sentence("Otherwise a new batch begins.");
+        DrawerSlips x = new DrawerSlips();
+        x.slip(READS, 20, 1);
+        x.serve(1);
+        x.slip(READS, 20, 1);
+        x.serve(1);
+        due("batches behind one below the arm", 2, x.count(7));
+        due("slips of the second one", 1, x.count(8));
+        x.slip(WRITES, 50, 1);
+        x.serve(1);
+        due("batches behind one of the other sort", 3, x.count(7));
+        x.slip(READS, 60, 1);
+        x.serve(1);
+        due("batches behind one of the first sort", 4, x.count(7));
+        x.pass(999);
+        due("minutes end none", 4, x.count(7));
+        x.slip(READS, 61, 1);
+        x.serve(1);
+        due("the latest one goes on", 4, x.count(7));
+        due("slips of the latest one", 2, x.count(8));
+    }
+
     // ---- serving: the sort of a new batch
 
     private static void servingChoosesTheSort() {
         onlyWrites();
         onlyReads();
+        bothWait();
         starvedWrites();
         aheadAsTheyBegan();
         beginsWhileWritesWait();
@@ -648,6 +673,22 @@ public final class TermsBoundsTest {
         x.tear(0);
         due("STARVE went ahead", 1, x.count(9));
         due("it reads", 2, x.next(0));
+    }
+
+    private static void bothWait() {
+        sentence("if both wait: writes, if STARVE batches of reads, or more");
+        DrawerSlips x = new DrawerSlips();
+        x.set(BATCH, 1);
+        x.slip(WRITES, 0, 1);
+        x.pass(999);
+        x.slip(READS, 90, 1);
+        x.slip(READS, 92, 1);
+        x.slip(READS, 94, 1);
+        due("otherwise reads, be they farther and younger", 1, x.next(0));
+        x.serve(1);
+        due("otherwise reads, when one batch went ahead", 2, x.next(0));
+        x.serve(1);
+        due("writes, when two went ahead", 0, x.next(0));
     }
 
     private static void starvedWrites() {
@@ -914,6 +955,8 @@ public final class TermsBoundsTest {
     private static void texts() {
         atMostEightyCharacters();
         rowOfOrders();
+        kindsOfOrders();
+        whatOrdersDo();
         soManyMore();
         digitsAndNumbers();
         firstThatCannotStand();
@@ -947,6 +990,42 @@ public final class TermsBoundsTest {
         fault("t1,t2", 2);
         fault("t1t2", 2);
         fault("t1;", 3);
+    }
+
+    private static void kindsOfOrders() {
+        sentence("order = \"r\" number [ \"+\" digit ] | \"w\" number [ \"+\" digit ] | \"s\" number | \"t\" number");
+        for (int sign = 33; sign <= 126; sign++) {
+            boolean isKind = sign == 'r' || sign == 'w' || sign == 's' || sign == 't';
+            boolean isSlip = sign == 'r' || sign == 'w';
+            fault((char) sign + "7", isKind ? NONE : 0);
+            fault((char) sign + "7+3", isSlip ? NONE : isKind ? 2 : 0);
+            fault("r" + (char) sign, sign >= '0' && sign <= '9' ? NONE : 1);
+            fault("w7" + (char) sign, sign >= '0' && sign <= '9' ? NONE : sign == '+' || sign == ';' ? 3 : 2);
+            fault("s7" + (char) sign, sign >= '0' && sign <= '9' ? NONE : sign == ';' ? 3 : 2);
+            fault("r77" + (char) sign, sign == '+' || sign == ';' ? 4 : 3);
+            fault("t77" + (char) sign, sign == ';' ? 4 : 3);
+            fault("r7+" + (char) sign, sign >= '0' && sign <= '9' ? NONE : 3);
+            fault("r7+7" + (char) sign, sign == ';' ? 5 : 4);
+        }
+    }
+
+    private static void whatOrdersDo() {
+        sentence("\"s\": serve() so many; \"t\": pass() minutes");
+        DrawerSlips x = Calls.full();
+        due("s0", 0, Calls.carriedOut(x, "s0"));
+        due("s31", 0, Calls.carriedOut(x, "s31"));
+        due("s99", 0, Calls.carriedOut(x, "s99"));
+        due("none is served", 0, x.count(4));
+        due("s1", 1, Calls.carriedOut(x, "s1"));
+        due("one is served", 1, x.count(4));
+        due("s30", 1, Calls.carriedOut(x, "s30"));
+        due("30 are served", 30, x.count(4));
+        due("s30 of none", 0, Calls.carriedOut(x, "s30"));
+        DrawerSlips y = new DrawerSlips();
+        due("t0", 0, Calls.carriedOut(y, "t0"));
+        due("t1", 1, Calls.carriedOut(y, "t1"));
+        due("t99", 1, Calls.carriedOut(y, "t99"));
+        due("now", 100, y.count(0));
     }
 
     private static void soManyMore() {
